@@ -139,7 +139,8 @@ public final class ModelTest {
                 both("wouldNear", 1 + random.nextInt(20));
             }
             if (state == 1 && random.nextInt(20) == 0) {
-                both("zone", model.ofCraft(craft, 7) + 1, random.nextInt(24), random.nextInt(24), 1 + random.nextInt(4));
+                int next = model.ofCraft(craft, 7) + 1;
+                both("zone", next, random.nextInt(24), random.nextInt(24), 1 + random.nextInt(4));
                 both("wind", random.nextInt(4), 3);
             }
         }
@@ -164,8 +165,8 @@ public final class ModelTest {
         int[] steps = {-5, 1, 5, -1};
         while (true) {
             int next = here + steps[random.nextInt(4)];
-            boolean isOne = next >= 0 && next < 25 && Math.abs(next / 5 - here / 5) + Math.abs(next % 5 - here % 5) == 1;
-            if (isOne) {
+            int apart = Math.abs(next / 5 - here / 5) + Math.abs(next % 5 - here % 5);
+            if (next >= 0 && next < 25 && apart == 1) {
                 return next;
             }
         }
