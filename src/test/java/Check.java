@@ -1,4 +1,9 @@
+import java.lang.reflect.InvocationTargetException;
+import java.lang.reflect.Method;
+import java.lang.reflect.Modifier;
 import java.util.ArrayList;
+import java.util.Arrays;
+import java.util.Comparator;
 import java.util.List;
 
 /** What the tests share: comparing answers, counting those that are wrong, and ending with exit code 1. */
@@ -15,8 +20,45 @@ final class Check {
     private static final List<String> FAULTS = new ArrayList<>();
     private static String part = "";
     private static int compared = 0;
+    private static int cases = 0;
 
     private Check() {
+    }
+
+    /** Runs each test of one case, by their names: each by itself, so that one that breaks off stops no other one. */
+    static void eachOf(Class<?> tests) {
+        Method[] methods = tests.getDeclaredMethods();
+        Arrays.sort(methods, Comparator.comparing(Method::getName));
+        for (Method method : methods) {
+            if (method.isAnnotationPresent(Says.class)) {
+                run(method);
+            } else if (looksLikeATest(method)) {
+                fault(method.getName() + " does not tell what the document says, and was not run");
+            }
+        }
+    }
+
+    private static boolean looksLikeATest(Method method) {
+        int modifiers = method.getModifiers();
+        return !method.isSynthetic() && !Modifier.isPrivate(modifiers) && !Modifier.isPublic(modifiers)
+            && method.getParameterCount() == 0;
+    }
+
+    private static void run(Method test) {
+        part(test.getDeclaringClass().getName() + "." + test.getName() + " [" + test.getAnnotation(Says.class).value()
+            + "]");
+        int before = compared;
+        try {
+            test.invoke(null);
+        } catch (InvocationTargetException thrown) {
+            fault("broke off with " + thrown.getCause());
+        } catch (IllegalAccessException thrown) {
+            fault("cannot be run");
+        }
+        if (compared == before) {
+            fault("compared nothing");
+        }
+        cases++;
     }
 
     static void part(String name) {
@@ -66,7 +108,8 @@ final class Check {
         for (String fault : FAULTS) {
             System.out.println(fault);
         }
-        System.out.println(compared + " answers compared, " + FAULTS.size() + " wrong");
+        String tests = cases > 0 ? cases + " cases, " : "";
+        System.out.println(tests + compared + " answers compared, " + FAULTS.size() + " wrong");
         if (!FAULTS.isEmpty()) {
             System.exit(1);
         }

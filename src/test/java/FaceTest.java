@@ -9,12 +9,16 @@ import java.util.TreeSet;
 /** The class has the document's face, and nothing else that others can see. */
 public final class FaceTest {
     private static final String[] FACE = {
-        "int houses(int,int)", "boolean tower(int,boolean)", "int pad(int)", "int zone(int,int,int,int)",
-        "int wind(int,int)", "int craft(int,int,int,int)", "boolean link(int,boolean)", "int fetch(int)",
-        "int draft(int)", "int clear()", "int ask(int,int)", "int withdraw(int)", "int pass(int)",
-        "int ofCell(int,int)", "int ofCraft(int,int)", "int ofFlight(int,int)", "int occupies(int,int)",
-        "int many(int)", "double meanCharge()", "int why(int,int)", "int soonest(int)", "int way(int,int)",
-        "int cost(int,int)", "int wouldNear(int)", "int wouldHave(int,int)", "long digest()",
+        "int houses(int,int) index argument", "boolean tower(int,boolean) index state",
+        "int pad(int) index argument state", "int zone(int,int,int,int) index argument state",
+        "int wind(int,int) argument", "int craft(int,int,int,int) index argument state",
+        "boolean link(int,boolean) index", "int fetch(int) index state", "int draft(int) index state", "int clear()",
+        "int ask(int,int) index argument state", "int withdraw(int) index state", "int pass(int) argument state",
+        "int ofCell(int,int) index argument", "int ofCraft(int,int) index argument",
+        "int ofFlight(int,int) index argument", "int occupies(int,int) index argument", "int many(int) argument",
+        "double meanCharge()", "int why(int,int) index argument state", "int soonest(int) index state",
+        "int way(int,int) index", "int cost(int,int) index", "int wouldNear(int) argument",
+        "int wouldHave(int,int) index argument", "long digest()",
     };
 
     public static void main(String[] args) {
@@ -78,6 +82,20 @@ public final class FaceTest {
         for (Class<?> type : method.getParameterTypes()) {
             text.append(text.charAt(text.length() - 1) == '(' ? "" : ",").append(type.getSimpleName());
         }
-        return text.append(')').toString();
+        text.append(')');
+        for (Class<?> thrown : method.getExceptionTypes()) {
+            text.append(' ').append(shortened(thrown));
+        }
+        return text.toString();
+    }
+
+    private static String shortened(Class<?> thrown) {
+        if (thrown == IndexOutOfBoundsException.class) {
+            return "index";
+        }
+        if (thrown == IllegalArgumentException.class) {
+            return "argument";
+        }
+        return thrown == IllegalStateException.class ? "state" : thrown.getName();
     }
 }

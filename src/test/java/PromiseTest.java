@@ -1,9 +1,5 @@
 /** Each promise of the document by itself: ordinary inputs, its edges, wrong inputs and the order of exceptions. */
-public final class PromiseTest {
-    private static final int NONE = -1;
-    private static final int LOW = Integer.MIN_VALUE;
-    private static final int HIGH = Integer.MAX_VALUE;
-
+public final class PromiseTest extends Scene {
     private PromiseTest() {
     }
 
@@ -50,34 +46,6 @@ public final class PromiseTest {
     }
 
     // ---- what the tests share
-
-    /** Pads 0 to 3 in the corners 0, 4, 20 and 24. */
-    private static LowAir withCorners() {
-        LowAir air = new LowAir();
-        int[] cells = {0, 4, 20, 24};
-        for (int i = 0; i < cells.length; i++) {
-            Check.same("pad of a corner", air.pad(cells[i]), i);
-        }
-        return air;
-    }
-
-    private static void draft(LowAir air, int... cells) {
-        air.clear();
-        for (int cell : cells) {
-            air.draft(cell);
-        }
-    }
-
-    private static int ask(LowAir air, int craft, int start, int... cells) {
-        draft(air, cells);
-        return air.ask(craft, start);
-    }
-
-    private static void passTo(LowAir air, int minute) {
-        while (air.many(0) < minute) {
-            air.pass(Math.min(100, minute - air.many(0)));
-        }
-    }
 
     private static void refusedCells(String name, LowAir air, java.util.function.IntFunction<Check.Call> call) {
         for (int cell : new int[] {-1, 25, LOW, HIGH}) {
@@ -1482,6 +1450,21 @@ public final class PromiseTest {
 
     private static void promise27Digest() {
         Check.part("promise 27, digest");
+        for (int minute = 0; minute < 30; minute++) {
+            LowAir air = withTwoAt(minute);
+            Check.same("without a draft", air.digest(), digestOf(air, false));
+            LowAir way = withTwoAt(minute);
+            draft(way, 0, 1, 0);
+            Check.same("with a draft", way.digest(), digestOf(way, true));
+            LowAir wrong = withTwoAt(minute);
+            draft(wrong, 0, 1);
+            Check.same("with a wrong draft", wrong.digest(), digestOf(wrong, false));
+        }
+        digestOfNear();
+        digestOfAll();
+    }
+
+    private static LowAir withTwoAt(int minute) {
         LowAir air = withCorners();
         air.craft(0, 0, 60, 3);
         air.craft(1, 2, 60, 1);
@@ -1492,44 +1475,37 @@ public final class PromiseTest {
         air.wind(2, 1);
         ask(air, 0, 2, 0, 1, 2, 3, 4);
         ask(air, 1, 20, 4, 9, 4);
-        for (int minute = 0; minute < 30; minute++) {
-            Check.same("without a draft", air.digest(), digestOf(air, false));
-            draft(air, 0, 1, 0);
-            Check.same("with a draft", air.digest(), digestOf(air, true));
-            draft(air, 0, 1);
-            Check.same("with a wrong draft", air.digest(), digestOf(air, false));
-            air.clear();
-            long before = air.digest();
-            unchanged(air, before);
-            air.pass(1);
-        }
-        digestOfNear();
-        digestOfAll();
+        passTo(air, minute);
+        air.clear();
+        return air;
     }
 
     /** Two are going to be near for two minutes: wouldNear() of 11, 12 and 13 differ for a while. */
     private static void digestOfNear() {
-        LowAir air = withCorners();
-        air.pad(1);
-        air.craft(0, 0, 200, 0);
-        air.craft(4, 0, 200, 0);
-        ask(air, 0, 1, 0, 5, 6, 7, 8, 13, 14, 19, 24);
-        // Broken at 17 in 19, it goes by 14, 9, 4, 3 and 2 into 1, and is there at 27 and 28.
-        Check.same("one starts as it is in 1", ask(air, 1, 27, 1, 6, 1), 1);
-        passTo(air, 15);
-        air.link(0, false);
         boolean differs = false;
         for (int minute = 15; minute < 35; minute++) {
+            LowAir air = withTwoNearAt27(minute);
             differs |= air.wouldNear(11) != air.wouldNear(12) && air.wouldNear(12) != air.wouldNear(13);
             Check.same("digest at " + minute, air.digest(), digestOf(air, false));
-            air.pass(1);
         }
         Check.same("they differ", differs, true);
-        Check.same("near for two minutes", air.many(13), 2);
+        Check.same("near for two minutes", withTwoNearAt27(35).many(13), 2);
     }
 
     /** As many of everything as there may be. */
     private static void digestOfAll() {
+        for (int minute = 0; minute < 60; minute += 3) {
+            LowAir air = withAllAt(minute);
+            draft(air, 20, 15, 10, 5, 0, 1, 2, 3, 4, 9);
+            Check.same("digest at " + minute, air.digest(), digestOf(air, false));
+        }
+        LowAir done = withAllAt(60);
+        draft(done, 20, 15, 10, 5, 0, 1, 2, 3, 4);
+        Check.same("all are done", done.many(8), 12);
+        Check.same("digest", done.digest(), digestOf(done, true));
+    }
+
+    private static LowAir withAllAt(int minute) {
         LowAir air = withCorners();
         air.pad(12);
         int[] shut = {6, 7, 8, 11, 16, 18};
@@ -1540,17 +1516,10 @@ public final class PromiseTest {
         }
         int[][] rows = {{0, 5, 0}, {4, 9, 4}, {20, 15, 20}, {24, 19, 24}, {12, 13, 12}};
         for (int i = 0; i < 12; i++) {
-            draft(air, rows[i % 5]);
-            Check.same("flight " + i, air.ask(i % 5, 10 + 20 * (i / 5)), i);
+            Check.same("flight " + i, ask(air, i % 5, 10 + 20 * (i / 5), rows[i % 5]), i);
         }
-        draft(air, 20, 15, 10, 5, 0, 1, 2, 3, 4, 9);
-        for (int minute = 0; minute < 60; minute++) {
-            Check.same("digest at " + minute, air.digest(), digestOf(air, false));
-            air.pass(1);
-        }
-        Check.same("all are done", air.many(8), 12);
-        draft(air, 20, 15, 10, 5, 0, 1, 2, 3, 4);
-        Check.same("digest", air.digest(), digestOf(air, true));
+        passTo(air, minute);
+        return air;
     }
 
     private static long digestOf(LowAir air, boolean isWay) {
@@ -1558,26 +1527,29 @@ public final class PromiseTest {
         for (int what = 0; what < 16; what++) {
             d = d * 31 + air.many(what);
         }
+        int now = air.many(0);
         for (int cell = 0; cell < 25; cell++) {
             for (int what = 0; what < 6; what++) {
                 d = d * 31 + air.ofCell(cell, what);
             }
-            d = d * 31 + air.occupies(cell, air.many(0) + 3);
+            d = d * 31 + air.occupies(cell, now + 3);
         }
-        for (int craft = 0; craft < air.many(3); craft++) {
+        int crafts = air.many(3);
+        for (int craft = 0; craft < crafts; craft++) {
             for (int what = 0; what < 10; what++) {
                 d = d * 31 + air.ofCraft(craft, what);
             }
             d = (d * 31 + air.way(craft, 12)) * 31 + air.cost(craft, 12);
             d = d * 31 + air.wouldHave(craft, 10);
         }
-        for (int flight = 0; flight < air.many(4); flight++) {
+        int flights = air.many(4);
+        for (int flight = 0; flight < flights; flight++) {
             for (int what = 0; what < 5; what++) {
                 d = d * 31 + air.ofFlight(flight, what);
             }
         }
         d = d * 31 + air.wouldNear(12);
-        for (int craft = 0; isWay && craft < air.many(3); craft++) {
+        for (int craft = 0; isWay && craft < crafts; craft++) {
             d = d * 31 + air.soonest(craft);
         }
         return d;
