@@ -891,6 +891,21 @@ public final class ToldBoundsTest extends Scene {
         out("fetch of the greatest number", () -> air.fetch(HIGH));
     }
 
+    @Says("Promise 9: Throws IndexOutOfBoundsException if there is no such CRAFT")
+    static void fetchOfTheLastCraft() {
+        LowAir air = withSixCraft();
+        // Craft 5 has 15 for a start and a move of 7; 6 are left for its way back, that is for 7 as well.
+        Check.same("ask", ask(air, 5, 1, 4, 9, 4), 0);
+        air.wind(0, 3);
+        air.pass(3);
+        air.wind(2, 3);
+        air.pass(2);
+        craftIs(air, 5, DOWN, 9, 0);
+        Check.same("fetch(5)", air.fetch(5), 9);
+        craftIs(air, 5, LIES, 4, 0);
+        out("fetch(6)", () -> air.fetch(6));
+    }
+
     @Says("Promise 9: Throws IllegalStateException if it is not DOWN")
     static void fetchOfOneThatLies() {
         LowAir air = withOne();
