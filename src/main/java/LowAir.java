@@ -458,7 +458,7 @@ public final class LowAir {
     }
 
     private void checkCraft(int craft) {
-        checkIndex(craft >= 0 && craft < sky.craftCount);
+        checkIndex(sky.isCraft(craft));
     }
 
     private void checkFlight(int flight) {
@@ -772,6 +772,10 @@ public final class LowAir {
             now = other.now;
         }
 
+        private boolean isCraft(int number) {
+            return number >= 0 && number < craftCount;
+        }
+
         private void play(int minutes) {
             for (int minute = 0; minute < minutes; minute++) {
                 now++;
@@ -795,7 +799,7 @@ public final class LowAir {
 
         private void startOrMissIfDue(int number) {
             Flight flight = flights[number];
-            if (flight.state != APPROVED || flight.start != now) {
+            if (flight.state != APPROVED || flight.start != now || !isCraft(flight.craft)) {
                 return;
             }
             Craft craft = crafts[flight.craft];
@@ -858,6 +862,10 @@ public final class LowAir {
         }
 
         private void comeIn(Craft craft) {
+            // No craft is outside the cells, but no index is used without a look at it.
+            if (!isCell(craft.cell)) {
+                return;
+            }
             int noise = craft.loudness * ground.houses[craft.cell];
             heard[craft.cell] += noise;
             heardEver += noise;
@@ -1008,7 +1016,7 @@ public final class LowAir {
             Arrays.fill(planned, 0);
             for (int i = 0; i < sky.flightCount; i++) {
                 Flight flight = sky.flights[i];
-                if (flight.isPlannedOn(day)) {
+                if (flight.isPlannedOn(day) && sky.isCraft(flight.craft)) {
                     plan(sky.crafts[flight.craft], flight.route);
                 }
             }
@@ -1049,7 +1057,9 @@ public final class LowAir {
                 open[cell] = !ground.towers[cell] && !ground.isShut(cell, craft.rank, now);
             }
             Arrays.fill(reached, FAR);
-            reached[craft.cell] = 0;
+            if (isCell(craft.cell)) {
+                reached[craft.cell] = 0;
+            }
             boolean changed = true;
             // A way has fewer moves than there are cells, so no more rounds can change anything.
             for (int round = 0; round < CELLS && changed; round++) {

@@ -76,6 +76,13 @@ final class Check {
         same(what, got ? 1 : 0, due ? 1 : 0);
     }
 
+    static void same(String what, String got, String due) {
+        compared++;
+        if (!got.equals(due)) {
+            FAULTS.add(part + ": " + what + " answered " + got + ", due is " + due);
+        }
+    }
+
     static void sameDouble(String what, double got, double due) {
         compared++;
         if (got != due) {
